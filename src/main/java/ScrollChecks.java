@@ -645,16 +645,16 @@ public final class ScrollChecks {
         }
 
         int rowsWrong() {
-            return wrongFrom(0, MAX_ROWS);
+            int wrong = 0;
+            for (int band = 0; band < MAX_ROWS; band++) {
+                wrong += isWrong(band) ? 1 : 0;
+            }
+            return wrong;
         }
 
         int columnsWrong() {
-            return wrongFrom(MAX_ROWS, BANDS);
-        }
-
-        private int wrongFrom(int first, int end) {
             int wrong = 0;
-            for (int band = first; band < end; band++) {
+            for (int band = MAX_ROWS; band < BANDS; band++) {
                 wrong += isWrong(band) ? 1 : 0;
             }
             return wrong;
@@ -696,7 +696,7 @@ public final class ScrollChecks {
         // Doubts
 
         boolean isDoubtful(int row, int column) {
-            return isSmudged(row, column) || isWrong(row) && isWrong(MAX_ROWS + column);
+            return sign(row, column) == SMUDGED || isWrong(row) && isWrong(MAX_ROWS + column);
         }
 
         int doubtsByCell() {
@@ -757,11 +757,11 @@ public final class ScrollChecks {
         }
 
         int mendCell() {
-            int cell = cellToMend();
-            int row = cell / 10;
-            letSlip(row, cell % 10, fault(row));
+            int row = firstWrongFrom(0);
+            int column = firstWrongFrom(MAX_ROWS) - MAX_ROWS;
+            letSlip(row, column, fault(row));
             mended++;
-            return cell;
+            return 10 * row + column;
         }
 
         /** Tries signs in the cells of this very scroll, so it is called on the scroll for trying alone. */
@@ -813,7 +813,7 @@ public final class ScrollChecks {
             int sign = fault(band);
             for (int row = 0; row < rows; row++) {
                 for (int column = 0; column < columns; column++) {
-                    if (isInBand(row, column, band) && isSmudged(row, column)) {
+                    if (isInBand(row, column, band) && sign(row, column) == SMUDGED) {
                         setSign(row, column, sign);
                     }
                 }
