@@ -1146,6 +1146,7 @@ public final class ScrollChecks {
             return deed == null ? length : start + deed.form.length() + 1;
         }
 
+        /** Answers a character, behind the end one that no order has. */
         private char at(int index) {
             return index >= 0 && index < length && index < characters.length ? characters[index] : (char) 0;
         }
@@ -1155,7 +1156,7 @@ public final class ScrollChecks {
         }
 
         private boolean isDigitAt(int index) {
-            return isAt(index, at(index)) && at(index) >= '0' && at(index) <= '9';
+            return at(index) >= '0' && at(index) <= '9';
         }
     }
 }
