@@ -16,6 +16,52 @@ final class Made {
         return checks;
     }
 
+    /**
+     * An object in which all is in use but the input: three scrolls (the first sealed and wrong in one cell, the second
+     * a copy with smudges, the third not sealed), a snapshot, eight changes and more, a line, an error and a reason.
+     */
+    static ScrollChecks usedWithoutText() {
+        ScrollChecks x = sealedWith("123", "456");
+        x.save();
+        x.slip(0, 0, 0, 3);
+        x.mend(0);
+        x.copy(0);
+        x.smudge(1, 1, 2);
+        x.fill(1);
+        x.smudge(1, 0, 0);
+        x.smudge(1, 1, 2);
+        x.scroll(1, 2);
+        x.slip(0, 1, 1, 4);
+        x.line(0, 1);
+        thrown(() -> x.seal(1));
+        thrown(() -> read(x, "s0;s"));
+        return x;
+    }
+
+    /** The same with a text in the input. */
+    static ScrollChecks used() {
+        ScrollChecks x = usedWithoutText();
+        type(x, "x0:0,1;s2");
+        return x;
+    }
+
+    /** The same with five scrolls. */
+    static ScrollChecks usedAndFull() {
+        ScrollChecks x = used();
+        x.copy(1);
+        x.scroll(2, 2);
+        return x;
+    }
+
+    private static void thrown(Checks.Call call) {
+        try {
+            call.make();
+        } catch (RuntimeException meant) {
+            return;
+        }
+        throw new AssertionError("a call that is made to throw answered");
+    }
+
     static int add(ScrollChecks checks, String... rows) {
         int scroll = checks.scroll(rows.length, rows[0].length());
         put(checks, scroll, rows);
