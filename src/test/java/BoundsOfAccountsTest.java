@@ -128,6 +128,11 @@ public final class BoundsOfAccountsTest {
         checks.due("P34 full", true, Made.usedAndFull().isWell());
         checks.due("P34 all are smudged", true, allSmudged().isWell());
         checks.due("P34 new", true, new ScrollChecks().isWell());
+        String[][] sealed = {{"5"}, {"12345678"}, {"1", "2", "3", "4", "5", "6"}, {"123", "456"}, {"12", "34", "56"},
+            {"99999999", "88888888", "77777777", "66666666", "55555555", "44444443"}};
+        for (String[] rows : sealed) {
+            checks.due("P34 sealed " + String.join(" ", rows), true, Made.sealedWith(rows).isWell());
+        }
         ScrollChecks x = Made.sealedWith("89", "97");
         checks.due("P34 sums above 9", true, x.isWell());
         x.write(0, 0, 0, 3);
@@ -392,6 +397,14 @@ public final class BoundsOfAccountsTest {
         }
         checks.due("P39 also where more was undone", 3, more.restore());
         dueSameScrolls("P39 where more was undone", Made.used(), more);
+        ScrollChecks other = Made.with("1");
+        other.copy(0);
+        other.save();
+        other.undo();
+        other.scroll(2, 3);
+        checks.due("P39 also where another stands", 2, other.restore());
+        checks.due("P39 the copy is one again", 0, other.scrollOf(1, 3));
+        checks.due("P39 the copy has its size and sign", 0, other.differ(0, 1));
     }
 
     private static void p39WhatIsNotSavedStays() {

@@ -263,12 +263,13 @@ public final class BoundsOfMendingTest {
         unsealed.dueThrow("P23 smudged and not sealed", NONE, x -> x.wouldFill(0, 0, 1));
         Unchanged block = new Unchanged(checks, () -> {
             ScrollChecks x = Made.sealedWith("123", "456", "789");
-            Made.put(x, 0, "??3", "??6", "78?");
+            Made.put(x, 0, "12?", "??6", "??9");
             return x;
         });
-        block.dueThrow("P23 would still be smudged", NONE, x -> x.wouldFill(0, 0, 0));
-        block.dueThrow("P23 the last of them", NONE, x -> x.wouldFill(0, 1, 1));
-        block.dueAnswer("P23 the lone one", 9, x -> x.wouldFill(0, 2, 2));
+        for (int cell : new int[] {10, 11, 20, 21}) {
+            block.dueThrow("P23 would still be smudged, " + cell, NONE, x -> x.wouldFill(0, cell / 10, cell % 10));
+        }
+        block.dueAnswer("P23 the lone one", 3, x -> x.wouldFill(0, 0, 2));
     }
 
     private static void p23CellsAtTheEdges() {
@@ -299,6 +300,12 @@ public final class BoundsOfMendingTest {
             x.write(1, cell / 8, cell % 8, 9);
         }
         checks.due("P24 all", 48, x.differ(0, 1));
+        ScrollChecks high = Made.with("1", "1", "1", "1", "1", "1");
+        Made.add(high, "1", "1", "1", "1", "1", "2");
+        checks.due("P24 the last row of one column", 1, high.differ(0, 1));
+        ScrollChecks wide = Made.with("11111111");
+        Made.add(wide, "11111112");
+        checks.due("P24 the last column of one row", 1, wide.differ(0, 1));
     }
 
     private static void p24SmudgedOnes() {

@@ -173,24 +173,44 @@ public final class BoundsOfScrollsTest {
         }
     }
 
+    /** Whatever was there before: nothing of a scroll that was restored away or undone may be left. */
     private static void p2IsNotSealedAndHasSigns0() {
-        ScrollChecks x = new ScrollChecks();
-        x.scroll(6, 8);
-        x.seal(0);
-        x.slip(0, 0, 0, 9);
-        x.mend(0);
-        x.smudge(0, 5, 7);
-        x.fill(0);
-        x.slip(0, 0, 1, 9);
-        x.smudge(0, 5, 6);
-        for (int change = 0; change < 8; change++) {
-            x.undo();
+        dueNew("of a new object", new ScrollChecks());
+        ScrollChecks restored = new ScrollChecks();
+        restored.save();
+        restored.scroll(6, 8);
+        restored.seal(0);
+        restored.slip(0, 0, 0, 9);
+        restored.mend(0);
+        restored.smudge(0, 0, 0);
+        restored.fill(0);
+        restored.slip(0, 5, 6, 9);
+        restored.smudge(0, 5, 7);
+        restored.restore();
+        dueNew("where one was restored away", restored);
+        ScrollChecks undone = Made.sealedWith("99999999", "99999999", "99999999", "99999999", "99999999", "99999999");
+        undone.smudge(0, 5, 7);
+        undone.copy(0);
+        undone.undo();
+        dueNew("where a copy was undone", undone);
+        ScrollChecks read = Made.sealedWith("00", "00");
+        Made.read(read, "c0;e1:0,1+1;m1;x1:0,0;f1;x1:1,1");
+        read.undo();
+        dueNew("where a text was undone", read);
+    }
+
+    private static void dueNew(String what, ScrollChecks x) {
+        int number = x.scroll(6, 8);
+        int[] due = {6, 8, 0, -1, 0, 0, 0};
+        for (int asked = 0; asked <= 6; asked++) {
+            checks.due("P2 number " + asked + " " + what, due[asked], x.scrollOf(number, asked));
         }
-        checks.due("P2 where one was undone", 0, x.scroll(6, 8));
-        checks.due("P2 not sealed", 0, x.scrollOf(0, 2));
-        checks.due("P2 a copy of none", -1, x.scrollOf(0, 3));
-        checks.due("P2 all cells have sign 0", 48, x.count(0, 0));
-        checks.due("P2 none is smudged", 0, x.scrollOf(0, 4));
+        checks.due("P2 signs " + what, 48, x.count(number, 0));
+        checks.dueThrow("P2 not sealed " + what, NONE, () -> x.rowSum(number, 0));
+        checks.due("P2 nothing is in doubt " + what, 0, x.doubtsAgain(number));
+        checks.due("P6 sums " + what, 0, x.seal(number));
+        checks.due("P14 no row is wrong " + what, 0, x.wrongRows(number));
+        checks.due("P15 no column is wrong " + what, 0, x.wrongColumns(number));
     }
 
     // Promise 3

@@ -50,19 +50,24 @@ public final class MendingTest {
     }
 
     private static void testMendEachCell() {
-        ScrollChecks x = Made.sealedWith("12345678", "23456789", "34567890", "45678901", "56789012", "67890123");
-        String flawless = Made.lines(x, 0);
+        String[] rows = {"12345678", "23456789", "34567890", "45678901", "56789012", "67890123"};
+        ScrollChecks all = Made.sealedWith(rows);
         for (int row = 0; row < 6; row++) {
             for (int column = 0; column < 8; column++) {
                 int cell = 10 * row + column;
-                x.slip(0, row, column, 1 + (row * 8 + column) % 9);
+                int by = 1 + (row * 8 + column) % 9;
+                all.slip(0, row, column, by);
+                checks.due("P19 one by one " + cell, cell, all.mend(0));
+                ScrollChecks x = Made.sealedWith(rows);
+                String flawless = Made.lines(x, 0);
+                x.slip(0, row, column, by);
                 checks.due("P20 cell " + cell, cell, x.wouldMend(0));
                 checks.due("P21 cell " + cell, cell, x.mendAgain(0));
                 checks.due("P19 cell " + cell, cell, x.mend(0));
                 checks.due("P19 flawless behind " + cell, flawless, Made.lines(x, 0));
             }
         }
-        checks.due("P19 all mended", 48, x.scrollOf(0, 5));
+        checks.due("P19 all mended", 48, all.scrollOf(0, 5));
     }
 
     private static void testMendRefused() {

@@ -2,8 +2,10 @@ import java.util.Random;
 
 /** Makes the same calls to the class and to the model, by fixed random numbers, and compares all answers. */
 public final class ModelTest {
-    private static final int RUNS = 600;
+    private static final int RUNS = 3000;
     private static final int CALLS = 512;
+    // No single step of a run makes more calls than this.
+    private static final int MOST_CALLS_OF_STEP = 100;
     private static final int[] ODD = {Integer.MIN_VALUE, -536870912, -8, -2, -1, 5, 6, 7, 8, 9, 10, 11, 12, 60,
         268435456, 536870912, Integer.MAX_VALUE};
 
@@ -12,6 +14,7 @@ public final class ModelTest {
     private final Model model = new Model();
     private final int oddness;
     private final int size;
+    private int made;
 
     private ModelTest(long seed) {
         random = new Random(seed);
@@ -30,11 +33,11 @@ public final class ModelTest {
         int[] refusals = new int[8];
         for (int run = 0; run < RUNS; run++) {
             ModelTest test = new ModelTest(run);
-            for (int call = 0; call < CALLS; call++) {
+            while (test.made <= CALLS - MOST_CALLS_OF_STEP) {
                 int kind = test.chooseKind();
-                String made = test.compare(kind, successes, refusals);
-                if (made != null) {
-                    System.out.println("run " + run + ", call " + call + ": " + made);
+                String difference = test.compare(kind, successes, refusals);
+                if (difference != null) {
+                    System.out.println("run " + run + ", call " + test.made + ": " + difference);
                     wrong++;
                     break;
                 }
@@ -75,6 +78,7 @@ public final class ModelTest {
         Call[] both = calls(kind);
         String due = answer(both[1]);
         String got = answer(both[0]);
+        made++;
         if (!due.startsWith("class")) {
             successes[kind]++;
         }
@@ -171,7 +175,7 @@ public final class ModelTest {
             case 34: return both(real::save, model::save);
             case 35: return both(this::restoreReal, this::restoreModel);
             case 36: return both(() -> real.doubtsAgain(s), () -> model.doubts(s));
-            case 37: return both(() -> everything(true), () -> everything(false));
+            case 37: return both(() -> everything(s, true), () -> everything(s, false));
             default: return both(real::read, model::read);
         }
     }
@@ -188,26 +192,30 @@ public final class ModelTest {
         int length = 0;
         for (int at = 0; at < text.length(); at++) {
             length = isReal ? real.append(text.charAt(at)) : model.append(text.charAt(at));
+            made += isReal ? 1 : 0;
         }
         return length;
     }
 
-    private String everything(boolean isReal) {
+    /** All of one scroll, and the accounts. */
+    private String everything(int scroll, boolean isReal) {
         StringBuilder all = new StringBuilder();
-        for (int scroll = 0; scroll < model.account(0); scroll++) {
-            for (int row = 0; row < model.scrollOf(scroll, 0); row++) {
-                int length = isReal ? real.line(scroll, row) : model.line(scroll, row);
-                for (int at = 0; at < length; at++) {
-                    all.append(isReal ? real.character(at) : model.character(at));
-                }
-                all.append(' ');
+        boolean isThere = scroll >= 0 && scroll < model.account(0);
+        for (int row = 0; isThere && row < model.scrollOf(scroll, 0); row++) {
+            int length = isReal ? real.line(scroll, row) : model.line(scroll, row);
+            for (int at = 0; at < length; at++) {
+                all.append(isReal ? real.character(at) : model.character(at));
             }
-            for (int what = 0; what <= 6; what++) {
-                all.append(isReal ? real.scrollOf(scroll, what) : model.scrollOf(scroll, what)).append(',');
-            }
+            all.append(' ');
+            made += isReal ? 1 + length : 0;
+        }
+        for (int what = 0; isThere && what <= 6; what++) {
+            all.append(isReal ? real.scrollOf(scroll, what) : model.scrollOf(scroll, what)).append(',');
+            made += isReal ? 1 : 0;
         }
         for (int what = 0; what <= 11; what++) {
             all.append(isReal ? real.account(what) : model.account(what)).append(';');
+            made += isReal ? 1 : 0;
         }
         return all.toString();
     }
