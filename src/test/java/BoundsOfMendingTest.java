@@ -19,6 +19,7 @@ public final class BoundsOfMendingTest {
         p19IsAChange();
         p20TellsAndChangesNothing();
         p21TriesEachCell();
+        p21NoCellBesideTheScroll();
         p22NoneIsFilledIn();
         p22AllAreFilledIn();
         p22TheRowGoesAheadOfTheColumn();
@@ -154,6 +155,34 @@ public final class BoundsOfMendingTest {
             checks.due("P21 another sign by " + by, 1, x.mendAgain(0));
             checks.due("P21 leaves the sign", (9 + by) % 10, x.signAt(0, 0, 1));
         }
+    }
+
+    /** Two columns, or two rows, with the same fault: a cell of a row or a column more would mend them. */
+    private static void p21NoCellBesideTheScroll() {
+        for (int rows = 1; rows <= 6; rows++) {
+            for (int columns = 1; columns <= 8; columns++) {
+                for (int column = 1; column < columns; column++) {
+                    dueNoMend(rows, columns, 0, column);
+                }
+                for (int row = 1; row < rows; row++) {
+                    dueNoMend(rows, columns, row, 0);
+                }
+            }
+        }
+    }
+
+    /** Lets the first cell and another one of its row or column slip by 5. */
+    private static void dueNoMend(int rows, int columns, int row, int column) {
+        ScrollChecks x = new ScrollChecks();
+        x.scroll(rows, columns);
+        x.seal(0);
+        x.slip(0, 0, 0, 5);
+        x.slip(0, row, column, 5);
+        String what = " of " + rows + " by " + columns + ", cell " + (10 * row + column);
+        checks.due("P15 wrong columns" + what, column > 0 ? 2 : 0, x.wrongColumns(0));
+        checks.due("P14 wrong rows" + what, column > 0 ? 0 : 2, x.wrongRows(0));
+        checks.dueThrow("P20 none" + what, NONE, () -> x.wouldMend(0));
+        checks.dueThrow("P21 none" + what, NONE, () -> x.mendAgain(0));
     }
 
     // Promises 22 and 23
